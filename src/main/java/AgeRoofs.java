@@ -609,7 +609,7 @@ public final class AgeRoofs {
             while (at < length && bytes[at] == BLANK) {
                 at++;
             }
-            return here();
+            return at < length ? bytes[at] : NONE;
         }
 
         boolean ended() {
@@ -999,7 +999,6 @@ public final class AgeRoofs {
         private final int[] steps;
         private int length;
         private final int[] stack;
-        private int high;
         private final int[] letters;
         private boolean dated;
         private boolean asked;
@@ -1009,7 +1008,6 @@ public final class AgeRoofs {
             steps = new int[MOST_STEPS];
             length = 0;
             stack = new int[MOST_HIGH];
-            high = 0;
             letters = new int[LETTERS];
             dated = false;
             asked = false;
@@ -1082,95 +1080,90 @@ public final class AgeRoofs {
             asked = false;
         }
 
-        /** The law's worth; days that follow one another mostly ask the same, so the last answer is kept. */
-        int worthFor(int a, int b, int x, int date, int people) {
+        /** Takes the letters; false if the last answer still stands, as it mostly does from day to day. */
+        boolean asksAnew(int a, int b, int x, int date, int people) {
             boolean same = letters[A] == a && letters[B] == b && letters[X] == x && letters[N] == people;
             if (asked && same && (!dated || letters[Y] == date)) {
-                return answer;
+                return false;
             }
             letters[A] = a;
             letters[B] = b;
             letters[X] = x;
             letters[Y] = date;
             letters[N] = people;
-            answer = run();
             asked = true;
-            return answer;
+            return true;
         }
 
-        private int run() {
-            high = 0;
+        /** The law's worth for the letters taken. */
+        int run() {
+            int high = 0;
             int at = 0;
             // Branches go forwards alone, so there are never more steps than the law has.
             for (int k = 0; k < length && at >= 0 && at < length; k++) {
                 int step = steps[at];
                 at++;
-                if (step == ANSWER) {
-                    return pop();
+                if (step >= NUMBER || (step >= 0 && step < LETTERS)) {
+                    if (high >= MOST_HIGH) {
+                        return 0;
+                    }
+                    stack[high] = step >= NUMBER ? step - NUMBER : letters[step];
+                    high++;
+                    continue;
                 }
+                if (high < 1) {
+                    return 0;
+                }
+                int right = stack[high - 1];
+                if (step == ANSWER) {
+                    return right;
+                }
+                if (step == NOT) {
+                    stack[high - 1] = 1 - right;
+                    continue;
+                }
+                high--;
                 if (step == UNLESS) {
-                    at = pop() != 0 || at >= length ? at + 1 : steps[at];
-                } else {
-                    take(step);
+                    at = right != 0 || at >= length ? at + 1 : steps[at];
+                } else if (high >= 1) {
+                    stack[high - 1] = join(step, stack[high - 1], right);
                 }
             }
             return 0;
         }
 
-        private void take(int step) {
-            if (step >= NUMBER) {
-                push(step - NUMBER);
-            } else if (step >= 0 && step < LETTERS) {
-                push(letters[step]);
-            } else if (step == NOT) {
-                push(pop() == 0 ? 1 : 0);
-            } else {
-                int right = pop();
-                int left = pop();
-                push(join(step, left, right));
-            }
-        }
-
         private static int join(int step, int left, int right) {
+            long v;
             switch (step) {
                 case PLUS:
-                    return bounded((long) left + right);
+                    v = (long) left + right;
+                    break;
                 case MINUS:
-                    return bounded((long) left - right);
+                    v = (long) left - right;
+                    break;
                 case TIMES:
-                    return bounded((long) left * right);
+                    v = (long) left * right;
+                    break;
                 case BY:
-                    return right == 0 ? 0 : left / right;
+                    v = right == 0 ? 0 : left / right;
+                    break;
                 case EQUAL:
-                    return left == right ? 1 : 0;
+                    v = left == right ? 1 : 0;
+                    break;
                 case LESS:
-                    return left < right ? 1 : 0;
+                    v = left < right ? 1 : 0;
+                    break;
                 case MORE:
-                    return left > right ? 1 : 0;
+                    v = left > right ? 1 : 0;
+                    break;
                 case AND:
-                    return left & right;
+                    v = left & right;
+                    break;
                 default:
-                    return left | right;
+                    v = left | right;
+                    break;
             }
-        }
-
-        private static int bounded(long v) {
-            return (int) Math.max(-MOST_NUMBER, Math.min(MOST_NUMBER, v));
-        }
-
-        private void push(int v) {
-            if (high < MOST_HIGH) {
-                stack[high] = v;
-                high++;
-            }
-        }
-
-        private int pop() {
-            if (high <= 0) {
-                return 0;
-            }
-            high--;
-            return stack[high];
+            return v > MOST_NUMBER ? MOST_NUMBER : v < -MOST_NUMBER ? -MOST_NUMBER : (int) v;
         }
     }
 
@@ -1206,8 +1199,12 @@ public final class AgeRoofs {
             if (holding < 0 || holding >= kept) {
                 return elder == younger;
             }
+            Program program = programs[holding];
             int apart = Math.abs(bornOne - bornOther);
-            return programs[holding].worthFor(elder, younger, apart, dateOf(day), people) > 0;
+            if (program.asksAnew(elder, younger, apart, dateOf(day), people)) {
+                program.answer = program.run();
+            }
+            return program.answer > 0;
         }
     }
 
@@ -1417,26 +1414,20 @@ public final class AgeRoofs {
             System.arraycopy(now.home, 0, homesBefore, 0, MOST_PEOPLE);
             int made = 0;
             for (int round = 0; made <= MOST_TURNS && round <= MOST_TURNS; round++) {
-                int more = takeRound();
-                if (more == 0) {
+                int before = made;
+                for (int person = 0; person < people; person++) {
+                    int house = wishOf(person);
+                    if (house != NONE) {
+                        now.home[person] = house;
+                        made++;
+                    }
+                }
+                if (made == before) {
                     return made;
                 }
-                made += more;
             }
             System.arraycopy(homesBefore, 0, now.home, 0, MOST_PEOPLE);
             return NONE;
-        }
-
-        private int takeRound() {
-            int made = 0;
-            for (int person = 0; person < people; person++) {
-                int house = wishOf(person);
-                if (house != NONE) {
-                    now.home[person] = house;
-                    made++;
-                }
-            }
-            return made;
         }
 
         void goOn() {

@@ -179,6 +179,9 @@ public final class PromisesTest {
         due("feed of zeros at 160", x.feed(0, 0, 0, 0, 0), 160);
         x.end(159);
         due("feed of two at 159", x.feed(1, 0, 0, 0, 1), NONE);
+        due("feed of two more at 159", x.feed(1, 1, 0, 0, 0), NONE);
+        due("feed of two others at 159", x.feed(0, 0, 1, 1, 0), NONE);
+        due("feed of two in one number at 159", x.feed(0, 0, 257, 0, 0), NONE);
         due("feed that was refused adds nothing", x.count(3), 159);
         due("feed up to 160", x.feed(0, 0, 1, 0, 0), 160);
     }
@@ -459,6 +462,12 @@ public final class PromisesTest {
         x = parish("py20;py40;r", "y:y=180?1");
         due("the date of the day decides", x.clashes(0, 1, 720, 0), 2);
         due("first on it", x.clashes(0, 1, 720, 1), 179);
+        x = parish("py20;py40;r", "y:n=2?1");
+        due("of two people", x.clash(0, 1, 0), 1);
+        put(x, "py20;py40;p;r");
+        x.text(0);
+        x.law(0);
+        due("of three people", x.clash(0, 1, 0), 0);
     }
 
     private static void today() {
@@ -715,6 +724,11 @@ public final class PromisesTest {
         addLaw(x, "y:x=10?1");
         x.law(0);
         due("by the law that holds now", x.known(30, 0), 360 - 4);
+        x = parish("p;r", "y:x<360?1");
+        x.say(0, 0);
+        due("one date alone", x.known(31, 0), 1);
+        due("it is the least", x.known(31, 1), 1);
+        due("it is the greatest", x.known(31, 2), 1);
     }
 
     private static void worth() {
@@ -846,6 +860,15 @@ public final class PromisesTest {
             x.days(720);
         }
         due("0 without a seed", x.count(7), deaths(0L, 37));
+        for (long seed = 1; seed <= 20; seed++) {
+            x = parish("p;p;p;p;p;p;r");
+            x.risk(1);
+            x.seed(seed);
+            for (int k = 0; k < 5; k++) {
+                x.days(720);
+            }
+            due("deaths at the least risk by seed " + seed, x.count(7), deaths(seed, 1));
+        }
     }
 
     private static void days() {
@@ -978,6 +1001,7 @@ public final class PromisesTest {
         due("in six rooms", x.guests(1, 1, 0), 3);
         due("who then", x.guests(1, 1, 1), 21);
         due("the lower one where two first differ", parish("py20;py30;py30;py20;rm2").guests(0, 1, 1), 3);
+        due("which is not the lower number", parish("py30;py29;py31;py50;rm2", "y:x=360?1").guests(0, 1, 1), 9);
         due("no such house", x.guests(2, 1, 0), NONE);
         due("house -1", x.guests(-1, 1, 0), NONE);
         due("guests on 0 days", x.guests(0, 0, 0), NONE);
