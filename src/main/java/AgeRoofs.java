@@ -1001,8 +1001,6 @@ public final class AgeRoofs {
         private final int[] stack;
         private final int[] letters;
         private boolean dated;
-        private boolean asked;
-        private int answer;
 
         Program() {
             steps = new int[MOST_STEPS];
@@ -1010,8 +1008,6 @@ public final class AgeRoofs {
             stack = new int[MOST_HIGH];
             letters = new int[LETTERS];
             dated = false;
-            asked = false;
-            answer = 0;
         }
 
         static int letter(int sign) {
@@ -1047,7 +1043,6 @@ public final class AgeRoofs {
         void clear() {
             length = 0;
             dated = false;
-            asked = false;
         }
 
         void add(int step) {
@@ -1077,26 +1072,14 @@ public final class AgeRoofs {
             System.arraycopy(other.steps, 0, steps, 0, MOST_STEPS);
             length = other.length;
             dated = other.dated;
-            asked = false;
         }
 
-        /** Takes the letters; false if the last answer still stands, as it mostly does from day to day. */
-        boolean asksAnew(int a, int b, int x, int date, int people) {
-            boolean same = letters[A] == a && letters[B] == b && letters[X] == x && letters[N] == people;
-            if (asked && same && (!dated || letters[Y] == date)) {
-                return false;
-            }
+        int worthFor(int a, int b, int x, int date, int people) {
             letters[A] = a;
             letters[B] = b;
             letters[X] = x;
             letters[Y] = date;
             letters[N] = people;
-            asked = true;
-            return true;
-        }
-
-        /** The law's worth for the letters taken. */
-        int run() {
             int high = 0;
             int at = 0;
             // Branches go forwards alone, so there are never more steps than the law has.
@@ -1199,12 +1182,20 @@ public final class AgeRoofs {
             if (holding < 0 || holding >= kept) {
                 return elder == younger;
             }
-            Program program = programs[holding];
             int apart = Math.abs(bornOne - bornOther);
-            if (program.asksAnew(elder, younger, apart, dateOf(day), people)) {
-                program.answer = program.run();
+            return programs[holding].worthFor(elder, younger, apart, dateOf(day), people) > 0;
+        }
+
+        /** On how many days from this one on the answer for two births can't change: till a birthday of one. */
+        int steadyDays(int bornOne, int bornOther, int day) {
+            if (holding >= 0 && holding < kept && programs[holding].dated) {
+                return 1;
             }
-            return program.answer > 0;
+            return Math.min(daysTillBirthday(bornOne, day), daysTillBirthday(bornOther, day));
+        }
+
+        private static int daysTillBirthday(int born, int day) {
+            return YEAR - Math.floorMod(day - born, YEAR);
         }
     }
 
@@ -1297,20 +1288,28 @@ public final class AgeRoofs {
 
         int daysAtOdds(int one, int other, int span) {
             int many = 0;
-            for (int k = 0; k < span; k++) {
-                if (atOdds(one, other, now.today + k)) {
-                    many++;
-                }
+            int k = 0;
+            while (k < span) {
+                int steady = Math.max(1, steadyFrom(one, other, k));
+                many += atOdds(one, other, now.today + k) ? Math.min(steady, span - k) : 0;
+                k += steady;
             }
             return many;
         }
 
+        /** For how many days, from k days behind today on, two surely stay as they then are to each other. */
+        int steadyFrom(int one, int other, int k) {
+            return laws.steadyDays(now.born[one], now.born[other], now.today + k);
+        }
+
         /** How many days pass from today before two births clash; the whole span if they don't in it. */
         int daysOfPeace(int bornOne, int bornOther, int span) {
-            for (int k = 0; k < span; k++) {
+            int k = 0;
+            while (k < span) {
                 if (laws.forbid(bornOne, bornOther, now.today + k, people)) {
                     return k;
                 }
+                k += Math.max(1, laws.steadyDays(bornOne, bornOther, now.today + k));
             }
             return span;
         }
@@ -1504,11 +1503,16 @@ public final class AgeRoofs {
 
         private void lookAtPair(Parish parish, int one, int other) {
             int bit = pairBit(one, other);
-            for (int k = 0; k < span; k++) {
+            int k = 0;
+            while (k < span) {
+                int next = Math.min(span, k + Math.max(1, parish.steadyFrom(one, other, k)));
                 if (parish.atOdds(one, other, parish.now.today + k)) {
-                    on[k] |= bit;
                     ever |= bit;
+                    for (int day = k; day < next; day++) {
+                        on[day] |= bit;
+                    }
                 }
+                k = next;
             }
         }
 
