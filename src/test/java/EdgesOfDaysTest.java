@@ -481,6 +481,12 @@ public final class EdgesOfDaysTest {
             E.due(x.clashes(0, 1, 4, 0), 2);
             E.due(x.clashes(0, 1, 4, 1), 360);
         });
+        E.edge("11: two birthdays in the midst of the DAYS, the second alone brings a CLASH", () -> {
+            AgeRoofs x = Edges.parish("py20d11;py20d21;r", "y:b=20?1");
+            E.due(x.clashes(0, 1, 20, 1), NONE);
+            E.due(x.clashes(0, 1, 21, 1), 20);
+            E.due(x.clashes(0, 1, 720, 0), 360);
+        });
         E.edge("11: a birthday in the midst of the DAYS", () -> {
             AgeRoofs x = Edges.parish(THREE);
             E.due(x.clashes(0, 1, 99, 0), 99);
@@ -592,6 +598,22 @@ public final class EdgesOfDaysTest {
             E.due(Edges.parish("ph0;ph1;r;r").judge(720, 0), NONE));
         E.edge("13: the HOUSE (the lowest): of two in which two clash", () -> {
             AgeRoofs x = Edges.parish("ph2;ph2;ph1;ph1;r;r;r");
+            E.due(x.judge(1, 2), 1);
+            E.due(x.judge(1, 1), 1);
+        });
+        E.edge("13: a clash in the first of four HOUSES, none in those behind it", () -> {
+            AgeRoofs x = Edges.parish("ph0;ph0;py20h1;py40h3;r;r;r;r");
+            E.due(x.judge(1, 0), 0);
+            E.due(x.judge(1, 2), 0);
+        });
+        E.edge("13: LAWFUL in all of four HOUSES", () -> {
+            AgeRoofs x = Edges.parish("ph0;ph1;ph2;ph3;rm1;rm1;rm1;rm1");
+            E.due(x.judge(720, 0), NONE);
+            E.due(x.judge(720, 1), 0);
+            E.due(x.judge(720, 2), NONE);
+        });
+        E.edge("13: a HOUSE that is full, below one in which two clash", () -> {
+            AgeRoofs x = Edges.parish("py20h0;ph1;ph1;rm1;r");
             E.due(x.judge(1, 2), 1);
             E.due(x.judge(1, 1), 1);
         });

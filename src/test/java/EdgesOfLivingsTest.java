@@ -16,6 +16,7 @@ public final class EdgesOfLivingsTest {
         barsNone();
         moves();
         movesDays();
+        movesToAndFro();
         movesRefused();
         nightSteps();
         nightRows();
@@ -26,6 +27,10 @@ public final class EdgesOfLivingsTest {
         lodgerRefused();
         E.finish();
     }
+
+    /** Each clashes with its neighbours in the row 0, 2, 3, 1 alone, on all days. */
+    private static final String ROW = "py30d1;py39d241;py33d81;py36d161";
+    private static final String ROW_LAW = "y:x=1000?1";
 
     private static void fewest() {
         E.edge("15: one PERSON alone: one HOUSE", () -> E.due(Edges.parish("p;r").fewest(720, 0), 1));
@@ -112,6 +117,13 @@ public final class EdgesOfLivingsTest {
         E.edge("16: the highest that can be: rooms alone lead there", () -> {
             AgeRoofs x = Edges.parish("py1;py2;py3;py4;py5;py6;rm1;rm1;rm1;rm3");
             E.due(x.lasts(1), ((((0 * 4 + 1) * 4 + 2) * 4 + 3) * 4 + 3) * 4 + 3);
+        });
+        E.edge("16: who could live together must part for those behind them", () -> {
+            AgeRoofs x = Edges.parish(ROW + ";rm4;rm4", ROW_LAW);
+            E.due(x.lasts(720), 16 + 4);
+            E.due(x.bars(720), NONE);
+            E.due(x.fewest(720, 0), 2);
+            E.due(x.wants(720, 2), 2);
         });
         E.edge("16: as many as ROOMS", () -> {
             E.due(Edges.parish("py1;py2;py3;rm3").lasts(1), 0);
@@ -238,6 +250,30 @@ public final class EdgesOfLivingsTest {
             x.today(1);
             E.due(x.moves(359), 0);
             E.due(x.moves(360), 1);
+        });
+    }
+
+    /** The one of 50 clashes in turn with those of 10 and of 20, these two always; who is 99 must live alone. */
+    private static AgeRoofs toAndFro(int mover) {
+        String[] people = new String[5];
+        people[mover] = "py50h0";
+        people[(mover + 1) % 5] = "py20h0";
+        people[(mover + 2) % 5] = "py10h1";
+        people[(mover + 3) % 5] = "py99h2";
+        people[(mover + 4) % 5] = "py70h1";
+        String law = "y:a=99?1;y:a=50&b=10&y/2*2<y?1;y:a=50&b=20&y/2*2=y?1;y:a=20&b=10?1";
+        return Edges.parish(String.join(";", people) + ";rm5;rm5;rm5", law);
+    }
+
+    private static void movesToAndFro() {
+        E.edge("18: one who must move from DAY to DAY, whichever of five it is", () -> {
+            for (int mover = 0; mover < 5; mover++) {
+                AgeRoofs x = toAndFro(mover);
+                E.due(x.moves(1), 0);
+                E.due(x.moves(2), 1);
+                E.due(x.moves(3), 2);
+                E.due(x.moves(40), 39);
+            }
         });
     }
 

@@ -113,6 +113,13 @@ public final class EdgesOfRoomsTest {
             E.due(Edges.parish("ph0;p;ph1;r;r").till(0), 720);
             E.due(Edges.parish("ph0;py40h0;r").till(0), 720);
         });
+        E.edge("31: a birthday of the one, then of the other, which alone brings a CLASH", () -> {
+            AgeRoofs x = Edges.parish("py20d11h0;py20d21h0;r", "y:b=20?1");
+            E.due(x.till(0), 20);
+            E.due(x.till(1), 20);
+            E.due(x.free(0, 20), 1);
+            E.due(x.free(0, 21), 0);
+        });
         E.edge("31: the first of those with whom it CLASHES", () -> {
             AgeRoofs x = Edges.parish("py20h0;py30h0;py40h0;rm3", "y:y=9&b=20&a=40?1;y:y=5&b=20&a=30?1;y:y=2&b=30?1");
             E.due(x.till(0), 4);
@@ -147,6 +154,7 @@ public final class EdgesOfRoomsTest {
     private static void swapMay() {
         E.edge("32: both housed", () -> {
             E.due(Edges.parish("p;ph0;r;r").swap(NONE), 0);
+            E.due(Edges.parish("ph0;p;r;r").swap(NONE), 0);
             E.due(Edges.parish("p;p;r;r").swap(NONE), 0);
         });
         E.edge("32: in unlike HOUSES", () -> E.due(Edges.parish("py20h0;py30h0;r;r").swap(NONE), 0));
@@ -160,6 +168,17 @@ public final class EdgesOfRoomsTest {
             E.due(Edges.parish("py20h0;py30h1;py20h1;r;r").swap(NONE), 1);
             E.due(Edges.parish("py20h0;py30h1;py20h1;r;r").swap(0), 2);
         });
+        E.edge("32: both MAY: the lower one CLASHES there, or the other one", () -> {
+            // 0 and 2 clash, so that 0 can't go to 2's house with another one, nor 2 to 0's.
+            AgeRoofs x = Edges.parish("py20h0;py30h1;py20d9h1;py50h0;r;r", "y:x=8?1");
+            E.due(x.swap(NONE), 2);
+            E.due(x.swap(0), 2);
+            E.due(x.swap(1), 13);
+            x = Edges.parish("py30h0;py20d9h0;py20h1;py50h1;r;r", "y:x=8?1");
+            E.due(x.swap(NONE), 2);
+            E.due(x.swap(0), 3);
+            E.due(x.swap(1), 12);
+        });
         E.edge("32: both MAY: the others fewer than ROOMS", () -> {
             E.due(Edges.parish("py1h0;py2h1;py3h1;rm1;rm2").swap(NONE), 2);
             E.due(Edges.parish("py1h0;py2h1;py3h1;rm1;rm1").swap(NONE), 0);
@@ -171,6 +190,10 @@ public final class EdgesOfRoomsTest {
             E.due(x.swap(NONE), 0);
             x.today(2);
             E.due(x.swap(NONE), 2);
+            x = Edges.parish("py20h0;py30h0;py40h1;r;r", "y:y=2?1");
+            E.due(x.swap(NONE), 2);
+            x.today(1);
+            E.due(x.swap(NONE), 0);
         });
         E.refused("32: SWAP changes no HOUSES", () -> Edges.parish("ph0;ph1;r;r"), x -> x.swap(0));
     }

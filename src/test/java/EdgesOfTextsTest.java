@@ -187,6 +187,12 @@ public final class EdgesOfTextsTest {
             E.due(Edges.fault(0, "r;r;r;r;p;r"), 10);
             E.due(Edges.fault(0, SIX_FOUR + ";r"), 20);
         });
+        E.edge("T1: FAULT: blanks ahead of a seventh p and a fifth r, behind six and four", () -> {
+            E.due(Edges.fault(0, SIX_FOUR + ";  p"), 22);
+            E.due(Edges.fault(0, SIX_FOUR + ";  r"), 22);
+            E.due(Edges.fault(0, SIX_FOUR + ";  "), 22);
+            E.due(Edges.fault(0, SIX_FOUR + ";z"), 20);
+        });
         E.edge("T1: FAULT: no clause", () -> {
             E.due(Edges.fault(0, ";"), 0);
             E.due(Edges.fault(0, "p;;r"), 2);
@@ -217,6 +223,9 @@ public final class EdgesOfTextsTest {
             E.due(Edges.fault(0, "py1y1;r"), 3);
             E.due(Edges.fault(0, "pd1 d1;r"), 4);
             E.due(Edges.fault(0, "ph0h0;r"), 3);
+            E.due(Edges.fault(0, "py1d1y1;r"), 5);
+            E.due(Edges.fault(0, "pd1h0d1;r"), 5);
+            E.due(Edges.fault(0, "ph0y1h0;r"), 5);
             E.due(Edges.fault(0, "py1d1h0y1;r"), 7);
             E.due(Edges.fault(0, "py1d1h0h0;r"), 7);
             E.due(Edges.fault(0, "p;rm1m1"), 5);
@@ -429,6 +438,29 @@ public final class EdgesOfTextsTest {
             E.due(Edges.fault(1, "y:a=1?1?1"), 7);
             E.due(Edges.fault(1, "y:?1"), 2);
         });
+        E.edge("T1: FAULT: nothing stands where a UNIT or a SUM must", () -> {
+            E.due(Edges.fault(1, "y:1=1|?1"), 6);
+            E.due(Edges.fault(1, "y:1=1&?1"), 6);
+            E.due(Edges.fault(1, "y:|1=1?1"), 2);
+            E.due(Edges.fault(1, "y:&1=1?1"), 2);
+            E.due(Edges.fault(1, "y:!?1"), 3);
+            E.due(Edges.fault(1, "y:1=?1"), 4);
+            E.due(Edges.fault(1, "y:=1?1"), 2);
+            E.due(Edges.fault(1, "y:(1=1|)?1"), 7);
+            E.due(Edges.fault(1, "y:(1=1&)?1"), 7);
+            E.due(Edges.fault(1, "y:(1=)?1"), 5);
+            E.due(Edges.fault(1, "y:(!)?1"), 4);
+        });
+        E.edge("T1: FAULT: nothing stands where a TERM or an ATOM must", () -> {
+            E.due(Edges.fault(1, "y:;y:1"), 2);
+            E.due(Edges.fault(1, "y:1=1?;y:1"), 6);
+            E.due(Edges.fault(1, "y:1+;y:1"), 4);
+            E.due(Edges.fault(1, "y:1*;y:1"), 4);
+            E.due(Edges.fault(1, "y:1+*1"), 4);
+            E.due(Edges.fault(1, "y:1/=1?1"), 4);
+            E.due(Edges.fault(1, "y:[1-]"), 5);
+            E.due(Edges.fault(1, "y:[1/]"), 5);
+        });
         E.edge("T1: FAULT: a sign that closes what was not opened so", () -> {
             E.due(Edges.fault(1, "y:1]"), 3);
             E.due(Edges.fault(1, "y:1)"), 3);
@@ -472,6 +504,14 @@ public final class EdgesOfTextsTest {
         E.edge("T1: six of ( within one another", () -> E.due(Edges.fault(1, "y:((((((1=1))))))?1"), NONE));
         E.edge("T1: six of ! within one another", () -> E.due(Edges.fault(1, "y:!!!!!!1=1?1"), NONE));
         E.edge("T1: six of ( [ ! within one another", () -> E.due(Edges.fault(1, "y:!(!([[1]]=1))?1"), NONE));
+        E.edge("T1: six within one another, behind the first of = & |", () -> {
+            E.due(Edges.fault(1, "y:1=[[[[[[1]]]]]]?1"), NONE);
+            E.due(Edges.fault(1, "y:1=1&((((((1=1))))))?1"), NONE);
+            E.due(Edges.fault(1, "y:1=1|!!!!!!1=1?1"), NONE);
+            E.due(Edges.fault(1, "y:1=[[[[[[[1]]]]]]]?1"), 10);
+            E.due(Edges.fault(1, "y:1=1&(((((((1=1)))))))?1"), 12);
+            E.due(Edges.fault(1, "y:1=1|!!!!!!!1=1?1"), 12);
+        });
         E.edge("T1: FAULT: a seventh of ( [ ! at it", () -> {
             E.due(Edges.fault(1, "y:[[[[[[[1]]]]]]]"), 8);
             E.due(Edges.fault(1, "y:(((((((1=1)))))))?1"), 8);
@@ -561,6 +601,27 @@ public final class EdgesOfTextsTest {
             E.due(x.house(1, 0), NONE);
             E.due(x.count(8), 1);
         });
+        E.edge("5: nobody goes to a HOUSE of the PARISH ahead", () -> {
+            AgeRoofs x = Edges.parish("ph0;ph1;ph2;p;r;r;r;r");
+            Edges.put(x, "py20d2h0;py20d2h0;r");
+            x.text(0);
+            E.due(x.moves(1), NONE);
+            E.due(x.night(1, NONE), NONE);
+            E.due(x.free(0, 1), 0);
+            E.due(x.days(1), 1);
+            E.due(x.person(0, 2), NONE);
+        });
+        E.edge("5: nobody gains by a HOUSE of the PARISH ahead", () -> {
+            AgeRoofs x = Edges.parish("py1;py2;rc0;rc0;rc0;rc0");
+            for (int house = 0; house < 4; house++) {
+                x.worth(0, house, 9);
+            }
+            E.due(x.best(0), 9);
+            Edges.put(x, "py1;py2;rc0");
+            x.text(0);
+            E.due(x.best(0), 0);
+            E.due(x.rather(0), NONE);
+        });
     }
 
     private static AgeRoofs lived() {
@@ -592,6 +653,27 @@ public final class EdgesOfTextsTest {
             AgeRoofs x = lived();
             Edges.put(x, "p;p;rc0;rc0");
             x.text(0);
+            E.due(x.best(0), 0);
+        });
+        E.edge("5: gone: MOVED that was above 0", () -> {
+            AgeRoofs x = Edges.parish("py1;py2;r");
+            E.due(x.days(1), 2);
+            Edges.put(x, "ph0;r");
+            x.text(0);
+            E.due(x.count(6), 0);
+            E.due(x.days(1), 0);
+        });
+        E.edge("5: gone: the WORTH of each PERSON for each HOUSE", () -> {
+            String six = "py1;py2;py3;py4;py5;py6;rc0;rc0;rc0;rc0";
+            AgeRoofs x = Edges.parish(six);
+            for (int k = 0; k < 24; k++) {
+                x.worth(k / 4, k % 4, 50);
+            }
+            Edges.put(x, six);
+            x.text(0);
+            for (int person = 0; person < 6; person++) {
+                E.due(x.rather(person), NONE);
+            }
             E.due(x.best(0), 0);
         });
         E.edge("5: the LAWS stay, but none holds then", () -> {
