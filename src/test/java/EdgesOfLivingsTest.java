@@ -17,6 +17,7 @@ public final class EdgesOfLivingsTest {
         moves();
         movesDays();
         movesToAndFro();
+        movesInOneNight();
         movesRefused();
         nightSteps();
         nightRows();
@@ -273,6 +274,20 @@ public final class EdgesOfLivingsTest {
                 E.due(x.moves(2), 1);
                 E.due(x.moves(3), 2);
                 E.due(x.moves(40), 39);
+            }
+        });
+    }
+
+    private static void movesInOneNight() {
+        E.edge("18: from one DAY to the next two change places, all others staying", () -> {
+            // Who is 99 must live alone on date 1, who is 10 on date 2.
+            String law = "y:y=1&a=99?1;y:y=2&b=10?1";
+            String others = ";py50h0;py60h0;py70h0;rm5;rm5";
+            for (String two : new String[] {"py99h1;py10h0", "py10h0;py99h1"}) {
+                AgeRoofs x = Edges.parish(two + others, law);
+                E.due(x.moves(1), 0);
+                E.due(x.moves(2), 2);
+                E.due(x.moves(360), 2);
             }
         });
     }
